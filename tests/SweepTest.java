@@ -1,0 +1,47 @@
+/** Every step there is, against the function of two numbers itself. */
+public final class SweepTest {
+    private static final Check CHECK = new Check();
+
+    public static void main(String[] args) {
+        Raywalk walk = new Raywalk();
+        int wrong = 0;
+        for (int across = -127; across <= 127; across++) {
+            for (int up = -127; up <= 127; up++) {
+                for (int signs = 0; signs < 4; signs++) {
+                    if (isTwice(across, up, signs)) {
+                        continue;
+                    }
+                    walk.put(0, across, up, signs);
+                    if (!agrees(walk, across, up, signs)) {
+                        wrong++;
+                        System.out.println("wrong digits or grades of (" + across + ", " + up + ") signs " + signs);
+                    }
+                }
+            }
+        }
+        CHECK.due("steps with wrong digits or grades", wrong, 0);
+        CHECK.end();
+    }
+
+    /** Signs of what is not 0 change nothing. */
+    private static boolean isTwice(int across, int up, int signs) {
+        return across != 0 && (signs & 1) != 0 || up != 0 && (signs & 2) != 0;
+    }
+
+    private static boolean agrees(Raywalk walk, int across, int up, int signs) {
+        double x = across == 0 && (signs & 1) != 0 ? -0.0 : across;
+        double y = up == 0 && (signs & 2) != 0 ? -0.0 : up;
+        double answer = StrictMath.atan2(y, x);
+        long digits = Double.doubleToRawLongBits(answer);
+        boolean isFixed = across == 0 || up == 0 || Math.abs(across) == Math.abs(up);
+        if (walk.upper(0) != (int) (digits >>> 32) || walk.lower(0) != (isFixed ? (int) digits : -9)) {
+            return false;
+        }
+        for (int count = 0; count <= 29; count++) {
+            if (walk.grade(0, count) != (int) Math.floor(answer * (1 << count))) {
+                return false;
+            }
+        }
+        return true;
+    }
+}
