@@ -140,7 +140,7 @@ public final class Raywalk {
 
     public int upper(int cell) throws IndexOutOfBoundsException {
         checkCell(cell);
-        return cells[cell].firstDigits();
+        return cells[cell].firstDigits(cells[cell].angle());
     }
 
     public int lower(int cell) throws IndexOutOfBoundsException {
@@ -390,7 +390,7 @@ public final class Raywalk {
     private boolean isPairSound(int one, int other) {
         Step first = cells[one];
         Step second = cells[other];
-        int byDigits = Angle.compareDigits(first.digitsOf(angles[one]), second.digitsOf(angles[other]));
+        int byDigits = Angle.compareDigits(first.firstDigits(angles[one]), second.firstDigits(angles[other]));
         if (byDigits != first.orderTo(second)) {
             return false;
         }
@@ -595,13 +595,9 @@ public final class Raywalk {
             return isUpper() ? size : -size;
         }
 
-        int firstDigits() {
-            return digitsOf(angle());
-        }
-
-        /** The first 32 digits for this step's angle, which tells no SIGN if it is 0. */
-        int digitsOf(long angle) {
-            int sizeDigits = Angle.firstDigits(angle < 0 ? -angle : angle);
+        /** The first 32 digits of the ANSWER; the angle is this step's, and tells no SIGN if it is 0. */
+        int firstDigits(long angle) {
+            int sizeDigits = Angle.exponentAndHead(angle < 0 ? -angle : angle);
             return isUpper() ? sizeDigits : sizeDigits | Angle.SIGN_DIGIT;
         }
 
@@ -674,8 +670,7 @@ public final class Raywalk {
             return (int) (angle >> (UNIT_DIGITS - digits));
         }
 
-        /** EXPONENT and HEAD of a size. */
-        static int firstDigits(long size) {
+        static int exponentAndHead(long size) {
             if (size == 0) {
                 return 0;
             }
@@ -800,7 +795,9 @@ public final class Raywalk {
 
         /** The square of the way from one to another. */
         private int distance(int from, int to) {
-            return dot(from, to, to);
+            int across = x[to] - x[from];
+            int up = y[to] - y[from];
+            return across * across + up * up;
         }
 
         private static int following(int at, int rowCount) {
