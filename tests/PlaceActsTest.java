@@ -9,6 +9,8 @@ public final class PlaceActsTest {
         centre();
         turnPlaces();
         mirrorPlaces();
+        turnedAndMirroredAtTheRims();
+        roundAndHullFollowEachAct();
         wrongSpots();
         CHECK.end();
     }
@@ -125,6 +127,60 @@ public final class PlaceActsTest {
         CHECK.due("centre y", walk.centreAt(true), -4);
         CHECK.due("hull follows", walk.hullText(), "0 2 1");
         CHECK.due("acts", walk.house(1), 5);
+    }
+
+    /** turnPlaces(): "the new x is -1 less the old y, the new y is the old x"; mirrorPlaces(): "the new x is -1 less the old x" */
+    private static void turnedAndMirroredAtTheRims() {
+        int[] rims = {-64, -63, -1, 0, 62, 63};
+        for (int x : rims) {
+            for (int y : rims) {
+                Raywalk walk = new Raywalk();
+                walk.addPlace(y, x);
+                walk.addPlace(x, -1 - y);
+                walk.centre(x, y);
+                walk.turnPlaces();
+                duePlace("turned", walk, 0, -1 - x, y);
+                CHECK.due("turned centre x", walk.centreAt(false), -1 - y);
+                CHECK.due("turned centre y", walk.centreAt(true), x);
+                walk.mirrorPlaces();
+                duePlace("turned and mirrored", walk, 0, x, y);
+                CHECK.due("mirrored centre x", walk.centreAt(false), y);
+                CHECK.due("mirrored centre y", walk.centreAt(true), x);
+                if (walk.places() > 1) {
+                    duePlace("the second turned and mirrored", walk, 1, -1 - y, x);
+                }
+            }
+        }
+    }
+
+    private static void dueRows(String what, Raywalk walk, String round, String hull) {
+        CHECK.due("round after " + what, walk.roundText(), round);
+        CHECK.due("hull after " + what, walk.hullText(), hull);
+    }
+
+    /** After each act the rows are those of the new field, without another act between. */
+    private static void roundAndHullFollowEachAct() {
+        Raywalk walk = new Raywalk();
+        walk.addPlace(4, 1);
+        dueRows("a first place", walk, "0", "0");
+        walk.addPlace(1, -5);
+        dueRows("a second place", walk, "1 0", "1 0");
+        walk.addPlace(0, 9);
+        dueRows("a third place", walk, "1 0 2", "1 0 2");
+        walk.addPlace(-6, 3);
+        dueRows("a fourth place", walk, "1 0 2 3", "1 0 2 3");
+        walk.turnPlaces();
+        dueRows("a turn", walk, "3 1 0 2", "3 1 0 2");
+        walk.mirrorPlaces();
+        dueRows("a mirroring", walk, "3 2 0 1", "3 2 0 1");
+        walk.centre(1, 5);
+        dueRows("another centre", walk, "1 0 3 2", "3 2 0 1");
+        walk.movePlace(3, -60, 0);
+        dueRows("a move", walk, "3 1 0 2", "3 2 0");
+        walk.removePlace(2);
+        dueRows("a removal", walk, "2 1 0", "2 1 0");
+        walk.removePlace(2);
+        dueRows("another removal", walk, "1 0", "1 0");
     }
 
     private static void wrongSpots() {

@@ -3,23 +3,15 @@ public final class SweepTest {
     private static final Check CHECK = new Check();
 
     public static void main(String[] args) {
-        Raywalk walk = new Raywalk();
-        int wrong = 0;
         for (int across = -127; across <= 127; across++) {
             for (int up = -127; up <= 127; up++) {
                 for (int signs = 0; signs < 4; signs++) {
-                    if (isTwice(across, up, signs)) {
-                        continue;
-                    }
-                    walk.put(0, across, up, signs);
-                    if (!agrees(walk, across, up, signs)) {
-                        wrong++;
-                        System.out.println("wrong digits or grades of (" + across + ", " + up + ") signs " + signs);
+                    if (!isTwice(across, up, signs)) {
+                        CHECK.due("digits and grades of " + Told.step(across, up, signs), told(across, up, signs), "as due");
                     }
                 }
             }
         }
-        CHECK.due("steps with wrong digits or grades", wrong, 0);
         CHECK.end();
     }
 
@@ -28,20 +20,25 @@ public final class SweepTest {
         return across != 0 && (signs & 1) != 0 || up != 0 && (signs & 2) != 0;
     }
 
-    private static boolean agrees(Raywalk walk, int across, int up, int signs) {
+    private static String told(int across, int up, int signs) {
         double x = across == 0 && (signs & 1) != 0 ? -0.0 : across;
         double y = up == 0 && (signs & 2) != 0 ? -0.0 : up;
         double answer = StrictMath.atan2(y, x);
         long digits = Double.doubleToRawLongBits(answer);
         boolean isFixed = across == 0 || up == 0 || Math.abs(across) == Math.abs(up);
-        if (walk.upper(0) != (int) (digits >>> 32) || walk.lower(0) != (isFixed ? (int) digits : -9)) {
-            return false;
+        Raywalk walk = new Raywalk();
+        walk.put(0, across, up, signs);
+        if (walk.upper(0) != (int) (digits >>> 32)) {
+            return "wrong upper";
+        }
+        if (walk.lower(0) != (isFixed ? (int) digits : -9)) {
+            return "wrong lower";
         }
         for (int count = 0; count <= 29; count++) {
             if (walk.grade(0, count) != (int) Math.floor(answer * (1 << count))) {
-                return false;
+                return "wrong grade to " + count;
             }
         }
-        return true;
+        return "as due";
     }
 }

@@ -648,9 +648,6 @@ public final class Raywalk {
          */
         static long arc(long height, long width) {
             long squares = height * height + width * width;
-            if (squares == 0) {
-                return 0;
-            }
             long term = timesQuotient(ONE, height * width, squares);
             long sum = term;
             for (int k = 1; k <= MOST_TERMS && term > 0; k++) {
@@ -660,8 +657,11 @@ public final class Raywalk {
             return sum;
         }
 
-        /** Cut off; split in two so that no product leaves 64 digits. The divisor is above 0. */
+        /** Cut off; split in two so that no product leaves 64 digits. No step on the axes asks, so no divisor is 0. */
         static long timesQuotient(long value, long dividend, long divisor) {
+            if (divisor <= 0) {
+                return 0;
+            }
             return value / divisor * dividend + value % divisor * dividend / divisor;
         }
 
