@@ -1,4 +1,4 @@
-/** Every step there is, against the function of two numbers itself. */
+/** Every step there is, in a cell and between two places, against the function of two numbers itself. */
 public final class SweepTest {
     private static final Check CHECK = new Check();
 
@@ -10,6 +10,7 @@ public final class SweepTest {
                         CHECK.due("digits and grades of " + Told.step(across, up, signs), told(across, up, signs), "as due");
                     }
                 }
+                CHECK.due("way between places by " + Told.step(across, up, 0), toldOfPlaces(across, up), "as due");
             }
         }
         CHECK.end();
@@ -37,6 +38,29 @@ public final class SweepTest {
         for (int count = 0; count <= 29; count++) {
             if (walk.grade(0, count) != (int) Math.floor(answer * (1 << count))) {
                 return "wrong grade to " + count;
+            }
+        }
+        return "as due";
+    }
+
+    /** The same step as the way from a place at the rim of the field to another one. */
+    private static String toldOfPlaces(int across, int up) {
+        if (across == 0 && up == 0) {
+            return "as due";
+        }
+        int x = across < 0 ? 63 : -64;
+        int y = up < 0 ? 63 : -64;
+        double answer = StrictMath.atan2(up, across);
+        Raywalk walk = new Raywalk();
+        walk.addPlace(x, y);
+        walk.addPlace(x + across, y + up);
+        walk.takeStep(0, 0, 1);
+        if (walk.across(0) != across || walk.up(0) != up || walk.signs(0) != (across < 0 ? 1 : 0) + (up < 0 ? 2 : 0)) {
+            return "wrong step";
+        }
+        for (int count = 0; count <= 29; count++) {
+            if (walk.bearing(0, 1, count) != (int) Math.floor(answer * (1 << count))) {
+                return "wrong bearing to " + count;
             }
         }
         return "as due";
